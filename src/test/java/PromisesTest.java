@@ -179,6 +179,21 @@ public final class PromisesTest {
             due("7: winding(" + n[0] + ", " + n[1] + ")", x.winding(n[0], n[1]), 0);
         }
         x.clear();
+        // The same the other way round, so that the left edge goes up.
+        x.move(PIXEL + HALF, 3 * PIXEL + HALF);
+        x.line(PIXEL + HALF, PIXEL + HALF);
+        x.line(3 * PIXEL + HALF, PIXEL + HALF);
+        x.line(3 * PIXEL + HALF, 3 * PIXEL + HALF);
+        due("7: corner of the turned one", x.winding(1, 1), -1);
+        due("7: top edge of the turned one", x.winding(2, 1), -1);
+        due("7: right edge of the turned one", x.winding(3, 2), 0);
+        due("7: bottom edge of the turned one", x.winding(1, 3), 0);
+        x.clear();
+        x.move(0, HALF);
+        x.line(4 * PIXEL, 0);
+        x.line(4 * PIXEL, HALF);
+        due("7: an edge that ends on the centres' height", x.winding(2, 0), 0);
+        x.clear();
         // Places 1 / 65536 off the centre decide.
         x.move(HALF + 1, 0);
         x.line(HALF + 1, PIXEL);
@@ -211,6 +226,17 @@ public final class PromisesTest {
         due("7: a hair right of the long edge", x.winding(0, 0), 0);
         due("7: fill right of the long edge", x.fill(0, 3), 0);
         due("7: gray at last", x.gray(0, 0), 2);
+        x.clear();
+        // At the centre's height the left edge is a third of 1 / 65536 right of it, or left of it.
+        x.move(HALF, HALF - 1);
+        x.line(HALF + 1, HALF + 2);
+        x.line(FAR, HALF);
+        due("7: a third left of an edge", x.winding(0, 0), 0);
+        x.clear();
+        x.move(HALF, HALF - 1);
+        x.line(HALF - 1, HALF + 2);
+        x.line(FAR, HALF);
+        due("7: a third right of an edge", x.winding(0, 0), 1);
     }
 
     private static void windingNumbers() {
@@ -371,6 +397,15 @@ public final class PromisesTest {
         due("10: FULL with none saved", y.save(), FULL);
         due("10: runs stay", y.runs(), 12001);
         due("11: nothing was saved", y.restore(), NO);
+
+        WindingRaster z = new WindingRaster(256, 241);
+        z.save();
+        stripes(z, 49, 240);
+        box(z, 250, 0, 251, 120);
+        due("10: 11880 runs beside 241", z.clip(0), 11880);
+        due("10: 24001 runs in all", z.save(), FULL);
+        due("10: runs stay", z.runs(), 12121);
+        due("11: only one was saved", z.restore(), 0);
     }
 
     private static void restore() {
