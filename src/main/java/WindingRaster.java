@@ -172,7 +172,7 @@ public final class WindingRaster {
         int row = -1;
         boolean crossed = false;
         for (int i = clips.start(); i < clips.end; i++) {
-            int run = clips.items[i];
+            int run = clips.runAt(i);
             if (Run.rowOf(run) != row) {
                 row = Run.rowOf(run);
                 crossed = outline.windRow(row, windings);
@@ -186,7 +186,7 @@ public final class WindingRaster {
 
     private void cutRun(int run, int rule) {
         int row = Run.rowOf(run);
-        int end = Run.endOf(run);
+        int end = Math.min(Run.endOf(run), windings.length);
         int from = -1;
         for (int column = Run.fromOf(run); column < end; column++) {
             boolean inside = isInside(windings[column], rule);
@@ -205,15 +205,19 @@ public final class WindingRaster {
 
     private int paint(int[] items, int start, int end, int gray) {
         int painted = 0;
-        for (int i = start; i < end; i++) {
-            int first = Run.rowOf(items[i]) * columns + Run.fromOf(items[i]);
-            int length = Run.lengthOf(items[i]);
-            for (int k = 0; k < length; k++) {
-                grays[first + k] = gray;
-            }
-            painted += length;
+        for (int i = Math.max(0, start); i < end && i < items.length; i++) {
+            paintRun(items[i], gray);
+            painted += Run.lengthOf(items[i]);
         }
         return painted;
+    }
+
+    private void paintRun(int run, int gray) {
+        int first = Run.rowOf(run) * columns + Run.fromOf(run);
+        int behind = Math.min(first + Run.lengthOf(run), grays.length);
+        for (int i = Math.max(0, first); i < behind; i++) {
+            grays[i] = gray;
+        }
     }
 
     /** A run as one number: its row, its first column, and the column behind its last one. */
@@ -278,15 +282,19 @@ public final class WindingRaster {
         }
 
         private int start() {
-            return starts[saved];
+            return saved >= 0 && saved < starts.length ? starts[saved] : 0;
+        }
+
+        /** A run, or an empty one where there is none. */
+        private int runAt(int place) {
+            return place >= 0 && place < end && place < items.length ? items[place] : 0;
         }
 
         private boolean push() {
             int size = end - start();
-            if (saved >= MOST_SAVED || size > MOST_RUNS - end) {
+            if (saved < 0 || saved >= MOST_SAVED || !copyRuns(items, start(), size, end)) {
                 return false;
             }
-            System.arraycopy(items, start(), items, end, size);
             saved++;
             starts[saved] = end;
             end += size;
@@ -303,17 +311,25 @@ public final class WindingRaster {
         }
 
         private boolean replace(RunList list) {
-            if (list.size > MOST_RUNS - start()) {
+            if (!copyRuns(list.items, 0, list.size, start())) {
                 return false;
             }
-            System.arraycopy(list.items, 0, items, start(), list.size);
             end = start() + list.size;
+            return true;
+        }
+
+        /** False, with nothing copied, when there is no room for so many. */
+        private boolean copyRuns(int[] from, int start, int size, int to) {
+            if (start < 0 || size < 0 || to < 0 || size > from.length - start || size > items.length - to) {
+                return false;
+            }
+            System.arraycopy(from, start, items, to, size);
             return true;
         }
 
         private boolean has(int column, int row) {
             for (int i = start(); i < end; i++) {
-                int run = items[i];
+                int run = runAt(i);
                 if (Run.rowOf(run) == row && Run.fromOf(run) <= column && column < Run.endOf(run)) {
                     return true;
                 }
@@ -324,7 +340,7 @@ public final class WindingRaster {
         private int pixelCount() {
             int sum = 0;
             for (int i = start(); i < end; i++) {
-                sum += Run.lengthOf(items[i]);
+                sum += Run.lengthOf(runAt(i));
             }
             return sum;
         }
@@ -410,8 +426,15 @@ public final class WindingRaster {
             return (row << PIXEL_BITS) + HALF_PIXEL;
         }
 
+        private boolean hasEdge(int point) {
+            return point >= 0 && point < size && size <= MOST_POINTS && next[point] >= 0 && next[point] < size;
+        }
+
         /** What a point's edge adds to the winding numbers right of it at y. */
         private int stepAt(int point, int y) {
+            if (!hasEdge(point)) {
+                return 0;
+            }
             int b = ys[point];
             int d = ys[next[point]];
             if (b <= y && y < d) {
@@ -422,6 +445,9 @@ public final class WindingRaster {
 
         /** The first column whose centre is not left of a point's edge at y; it may lie off the page. */
         private int firstColumn(int point, int y) {
+            if (!hasEdge(point)) {
+                return MOST_COLUMNS;
+            }
             long a = xs[point];
             long b = ys[point];
             long width = xs[next[point]] - a;

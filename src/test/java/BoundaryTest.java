@@ -825,6 +825,12 @@ public final class BoundaryTest {
         x.box(0, 0, 1, 1);
         x.clip(0);
         due("runs of all and one", x.runs(), 4);
+        due("a second one", x.save(), 2);
+        due("the clip is there still", x.pixels(), 1);
+        due("none but its own", x.open(2, 2), 0);
+        due("all runs", x.runs(), 5);
+        due("the second one", x.restore(), 1);
+        due("one pixel", x.pixels(), 1);
         due("the saved one is not cut", x.restore(), 0);
         due("all", x.pixels(), 9);
     }
